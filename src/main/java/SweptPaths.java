@@ -20,7 +20,6 @@ public final class SweptPaths {
     private static final int MOST_ASKEW = 24;
     private static final int FIRST_CELL = -32;
     private static final int LAST_CELL = 31;
-    private static final int CELLS_A_ROW = 64;
 
     private final Setting setting;
     private final Run live;
@@ -162,10 +161,9 @@ public final class SweptPaths {
         demandWithin(turn, -MOST_TURN, MOST_TURN);
         demandWithin(steps, 1, 60);
         Plan chosen = plans[plan];
-        if (chosen.parts >= MOST_PARTS) {
+        if (!chosen.add(turn, steps, forwards)) {
             throw new IllegalStateException("the plan has 6 parts");
         }
-        chosen.add(turn, steps, forwards);
         return chosen.parts;
     }
 
@@ -258,6 +256,7 @@ public final class SweptPaths {
                     && across >= -half * SQUARE && across <= half * SQUARE;
         }
 
+        /** How many directions the body turns by for a rest, rounded to 0. */
         int directionsIn(int rest) {
             return length < 1 ? 0 : rest / length;
         }
@@ -292,23 +291,26 @@ public final class SweptPaths {
         final boolean[] forwards = new boolean[MOST_PARTS];
         int parts;
 
-        void add(int turn, int stepsToGo, boolean ahead) {
+        /** Whether there was room for it. */
+        boolean add(int turn, int stepsToGo, boolean ahead) {
             if (parts >= MOST_PARTS) {
-                return;
+                return false;
             }
             turns[parts] = turn;
             steps[parts] = stepsToGo;
             forwards[parts] = ahead;
             parts++;
+            return true;
         }
     }
 
-    /** The swept cells, a long for each j with a bit for each i. */
+    /** The swept cells, a long for each j with a bit for each i; -32 .. -1 stand behind 0 .. 31 in both. */
     private static final class Cells {
         private static final int SIZE = 8 * UNIT;
         private static final int MIDDLE = 4 * UNIT;
+        private static final int LAST_SLOT = 63;
 
-        private final long[] rows = new long[CELLS_A_ROW];
+        private final long[] rows = new long[LAST_SLOT + 1];
         int count;
 
         void wipe() {
@@ -317,8 +319,8 @@ public final class SweptPaths {
         }
 
         boolean has(int i, int j) {
-            int row = j - FIRST_CELL;
-            return row >= 0 && row < CELLS_A_ROW && (rows[row] & 1L << (i - FIRST_CELL)) != 0L;
+            long bit = 1L << (i & LAST_SLOT);
+            return (rows[j & LAST_SLOT] & bit) != 0L;
         }
 
         /** Only cells near the body are looked at: this is the dearest work of a step. */
@@ -352,11 +354,8 @@ public final class SweptPaths {
         }
 
         private void mark(int i, int j) {
-            int row = j - FIRST_CELL;
-            if (row < 0 || row >= CELLS_A_ROW) {
-                return;
-            }
-            long bit = 1L << (i - FIRST_CELL);
+            int row = j & LAST_SLOT;
+            long bit = 1L << (i & LAST_SLOT);
             if ((rows[row] & bit) == 0L) {
                 rows[row] |= bit;
                 count++;
