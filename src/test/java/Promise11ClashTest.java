@@ -59,7 +59,7 @@ public final class Promise11ClashTest {
         clash(check, paths, 0, 2, 1);
     }
 
-    /** The ninth step jackknifes it, and what is struck behind that step counts. */
+    /** What is struck behind the very step that jackknifes it counts. */
     private static void behindTheLastStepOfAJackknife(Check check) {
         SweptPaths paths = new SweptPaths();
         paths.body(5, 0, 1, 1, 1);

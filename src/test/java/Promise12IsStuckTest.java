@@ -52,7 +52,7 @@ public final class Promise12IsStuckTest {
         check.due("freed by the step", false, paths.isStuck());
     }
 
-    /** In the ninth step the askew is 27 before the trailer swings by more than 3, and 24 or less behind it. */
+    /** The rest is 108 behind eight steps; the ninth has askew 25, which makes it 133, one of 109: 24 is left. */
     private static void withTheNewHeadings(Check check) {
         SweptPaths paths = new SweptPaths();
         paths.body(1, 0, 1, 1, 1);

@@ -35,7 +35,7 @@ public final class Promise16SweepsTest {
         check.due("none at all", 0, paths.sweeps(1));
     }
 
-    /** The jackknife comes in the ninth step; what goes on is the same as what ends there. */
+    /** Parts behind the step that jackknifes it add nothing. */
     private static void asFarAsItCanBeGone(Check check) {
         SweptPaths paths = new SweptPaths();
         paths.body(1, 0, 4, 4, 4);
