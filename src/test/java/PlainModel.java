@@ -6,10 +6,6 @@ import java.util.List;
  * step, and a trailer turns by one direction at a time.
  */
 final class PlainModel {
-    private static final int[] C = {
-        4096, 4076, 4017, 3920, 3784, 3612, 3406, 3166, 2896, 2598, 2276, 1931, 1567, 1189, 799, 401, 0
-    };
-
     private final List<int[]> bodies = new ArrayList<>();
     private final List<int[]> poles = new ArrayList<>();
     private final List<List<int[]>> plans = new ArrayList<>();
@@ -122,12 +118,11 @@ final class PlainModel {
     }
 
     private static long dx(long direction) {
-        int k = (int) Math.floorMod(direction, 64L);
-        return k <= 16 ? C[k] : k <= 32 ? -C[32 - k] : k <= 48 ? -C[k - 32] : C[64 - k];
+        return Directions.dx((int) direction);
     }
 
     private static long dy(long direction) {
-        return dx(direction - 16);
+        return Directions.dy((int) direction);
     }
 
     private static void bound(int number, int least, int greatest) {

@@ -6,7 +6,9 @@ public final class Promise06GoTest {
         trailerAndItsRest(check);
         trailersOneBehindTheOther(check);
         jackknifed(check);
+        aClashStopsNothing(check);
         fourThousandSteps(check);
+        theLastOfFourThousand(check);
         wrongInputs(check);
         check.end();
     }
@@ -37,21 +39,16 @@ public final class Promise06GoTest {
 
     /** The DX and DY of all directions, from the document's rows. */
     private static void roundAndRound(Check check) {
-        int[] c = {4096, 4076, 4017, 3920, 3784, 3612, 3406, 3166, 2896, 2598, 2276, 1931, 1567, 1189, 799, 401, 0};
-        int[] dx = new int[64];
-        for (int k = 0; k < 64; k++) {
-            dx[k] = k <= 16 ? c[k] : k <= 32 ? -c[32 - k] : k <= 48 ? -c[k - 32] : c[64 - k];
-        }
         for (int k = 0; k < 64; k++) {
             SweptPaths paths = new SweptPaths();
             paths.body(1, 0, 0, 0, 1);
             paths.step(1);
             paths.start(0, 0, k);
             paths.go(3, 1, true);
-            place(check, paths, 0, dx[k], dx[(k + 48) % 64], (k + 3) % 64);
+            place(check, paths, 0, Directions.dx(k), Directions.dy(k), (k + 3) % 64);
             paths.start(0, 0, k);
             paths.go(2, 1, false);
-            place(check, paths, 0, -dx[k], -dx[(k + 48) % 64], (k + 62) % 64);
+            place(check, paths, 0, -Directions.dx(k), -Directions.dy(k), (k + 62) % 64);
         }
         SweptPaths twice = new SweptPaths();
         twice.body(1, 0, 0, 0, 1);
@@ -117,6 +114,23 @@ public final class Promise06GoTest {
         check.due("askew -27", -27, paths.told(1, 3));
     }
 
+    /** "fewer if it is JACKKNIFED, or there are 4000 in all": a clash on the way makes it no fewer. */
+    private static void aClashStopsNothing(Check check) {
+        SweptPaths paths = new SweptPaths();
+        paths.body(5, 0, 4, 4, 4);
+        paths.pole(0, 0);
+        paths.pole(100, 0);
+        paths.start(0, 0, 0);
+        check.due("a clash at the start", 0, paths.clash(0));
+        check.due("all steps", 200, paths.go(0, 200, true));
+        place(check, paths, 0, 800 * 4096, 0, 0);
+        paths.start(40, 0, 0);
+        check.due("all steps over a pole", 30, paths.go(0, 30, true));
+        check.due("a clash on the way", 14, paths.clash(0));
+        check.due("all steps behind a clash", 60, paths.go(0, 30, true));
+        place(check, paths, 0, 280 * 4096, 0, 0);
+    }
+
     private static void fourThousandSteps(Check check) {
         SweptPaths paths = new SweptPaths();
         paths.body(5, 0, 1, 1, 1);
@@ -136,6 +150,28 @@ public final class Promise06GoTest {
         }
         place(check, paths, 0, -1000 * 4096, (-1000 - 4000 * 20) * 4096, 48);
         check.due("nothing swept far away", 0, paths.swept());
+    }
+
+    /** 3999, then one of 200, then none: refused calls and the way back count as steps do, or not at all. */
+    private static void theLastOfFourThousand(Check check) {
+        for (int steps = 1; steps <= 200; steps += 199) {
+            SweptPaths paths = new SweptPaths();
+            paths.body(5, 0, 1, 1, 1);
+            for (int n = 1; n <= 19; n++) {
+                paths.go(0, 200, n % 2 == 0);
+            }
+            check.due("3999", 3999, paths.go(0, 199, true));
+            check.argument("no steps", () -> paths.go(0, 0, true));
+            check.argument("too many steps", () -> paths.go(0, 201, true));
+            int x = paths.told(0, 0);
+            check.due("only one more", 4000, paths.go(3, steps, true));
+            place(check, paths, 0, x + 4 * 4096, 0, 3);
+            check.due("none", 4000, paths.go(3, steps, true));
+            check.due("none back", 4000, paths.go(-3, steps, false));
+            place(check, paths, 0, x + 4 * 4096, 0, 3);
+            check.refusesBeyond("turn behind 4000", -3, 3, n -> paths.go(n, 1, true));
+            check.refusesBeyond("steps behind 4000", 1, 200, n -> paths.go(0, n, true));
+        }
     }
 
     private static void wrongInputs(Check check) {

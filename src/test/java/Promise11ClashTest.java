@@ -5,6 +5,7 @@ public final class Promise11ClashTest {
         bodiesThenPoles(check);
         behindTheLastStepOfAJackknife(check);
         theWayBack(check);
+        behindTheLastOfFourThousand(check);
         wrongInputs(check);
         check.end();
     }
@@ -85,6 +86,27 @@ public final class Promise11ClashTest {
         paths.pole(0, 0);
         paths.go(0, 12, false);
         clash(check, paths, 19, 0, 0);
+    }
+
+    /** Back and forth over 800 units, then one step beyond; no step comes any more to strike the other pole. */
+    private static void behindTheLastOfFourThousand(Check check) {
+        SweptPaths paths = new SweptPaths();
+        paths.body(5, 0, 4, 4, 4);
+        for (int n = 0; n < 19; n++) {
+            paths.go(0, 200, n % 2 == 0);
+        }
+        paths.go(0, 199, false);
+        paths.pole(-4, 0);
+        paths.go(0, 1, false);
+        clash(check, paths, 4000, 0, 0);
+        SweptPaths late = new SweptPaths();
+        late.body(5, 0, 4, 4, 4);
+        for (int n = 0; n < 20; n++) {
+            late.go(0, 200, n % 2 == 0);
+        }
+        late.pole(0, 0);
+        late.go(0, 200, true);
+        clash(check, late, -1, -1, -1);
     }
 
     private static void wrongInputs(Check check) {

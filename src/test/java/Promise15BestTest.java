@@ -88,6 +88,10 @@ public final class Promise15BestTest {
         check.due("the steps go on", 10, paths.go(0, 1, true));
         int afterwards = paths.best();
         check.due("from the start, wherever it stands", best, afterwards);
+        for (int n = 0; n < Ways.COUNT; n++) {
+            int way = n;
+            Twins.untouched(check, "best behind " + Ways.name(n), asked -> Ways.go(asked, way), asked -> asked.best());
+        }
     }
 
     private static void noBody(Check check) {

@@ -4,6 +4,7 @@ public final class Promise16SweepsTest {
         fromTheStartOn(check);
         asFarAsItCanBeGone(check);
         longestPlan(check);
+        nothingChanges(check);
         wrongInputs(check);
         check.end();
     }
@@ -66,6 +67,17 @@ public final class Promise16SweepsTest {
             paths.go(0, 200, n % 2 == 0);
         }
         check.due("4000 live steps do not shorten a plan", 46, paths.sweeps(2));
+    }
+
+    private static void nothingChanges(Check check) {
+        for (int n = 0; n < Ways.COUNT; n++) {
+            int way = n;
+            for (int p = 0; p <= 3; p++) {
+                int plan = p;
+                Twins.untouched(check, "sweeps(" + p + ") behind " + Ways.name(n), asked -> Ways.go(asked, way),
+                        asked -> asked.sweeps(plan));
+            }
+        }
     }
 
     private static void wrongInputs(Check check) {
